@@ -145,7 +145,12 @@ public final class TextsTest {
     Check.send(x, 4, 2);
     x.set(2, 0);
     Check.send(x, 0, 12);
+    Check.send(x, 4, 1);
     x.tick(3);
+    check.due("MARKERS ANSWERED", x.count(10), 1);
+    check.due("latest of 0", x.flow(0, 6), 3);
+    check.due("HELD", x.count(9), 8);
+    check.due("LOST", x.count(8), 4);
     x.set(0, 3);
     x.set(1, 7);
     x.set(2, 4);

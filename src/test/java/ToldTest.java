@@ -12,6 +12,7 @@ public final class ToldTest {
     downForgets(check);
     downLosesAndAnswers(check);
     downAnswersInOrder(check);
+    downAnswersAMarkerThatIsFirst(check);
     downKeepsTheFlowOnIt(check);
     hearIsKept(check);
     hearTellsWhetherItCarries(check);
@@ -179,6 +180,19 @@ public final class ToldTest {
     check.due("the first MARKER is ANSWERED first", x.queue(0, 0), 402);
     check.due("the second MARKER is ANSWERED then", x.queue(0, 1), 2);
     check.due("ANSWERED", x.count(10), 2);
+  }
+
+  private static void downAnswersAMarkerThatIsFirst(Check check) {
+    BoundPorts x = Check.carrying("00,01", 2);
+    x.send(0);
+    x.set(2, 1);
+    x.send(0);
+    x.tick(1);
+    check.due("the MARKER is first", x.queue(0, 0), -1);
+    x.up(0, false);
+    check.due("MOVING", x.flow(0, 1), 0);
+    check.due("what was HELD", x.queue(1, 0), 2);
+    check.due("LOST", x.count(8), 0);
   }
 
   private static void downKeepsTheFlowOnIt(Check check) {
