@@ -544,12 +544,13 @@ public final class BoundPorts {
    * while its MARKERS are ANSWERED.
    */
   private void dropQueue(Queue q) {
-    for (int place = 0; place < q.size; place++) {
+    int many = q.size;
+    for (int place = 0; place < many; place++) {
       if (!q.isMarker(place)) {
         flows[q.flowAt(place)].lost++;
       }
     }
-    for (int place = 0; place < q.size; place++) {
+    for (int place = 0; place < many; place++) {
       if (q.isMarker(place)) {
         answerMarker(q.flowAt(place));
       }
@@ -721,8 +722,9 @@ public final class BoundPorts {
       return place >= 0 && place < size;
     }
 
+    /** Only what names a FLOW comes in, so that each flowAt() can be used as an index. */
     void append(int flow, int number) {
-      if (size < ROOM) {
+      if (size < ROOM && isFlow(flow)) {
         flowRow[size] = flow;
         numberRow[size] = number;
         size++;
